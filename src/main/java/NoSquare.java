@@ -302,7 +302,7 @@ public final class NoSquare {
         if (lying > MOST_BY_COIN) {
             return STATE;
         }
-        return inLowestTerms(waysWithout(leftSquares(table.lying), 0, 0, lying), lying, what);
+        return inLowestTerms(waysWithout(grid, leftSquares(table.lying), 0, 0, lying), lying, what);
     }
 
     // ---- seen
@@ -489,7 +489,7 @@ public final class NoSquare {
         return places != 0 && Integer.bitCount(places) <= Game.MOST_PLACES;
     }
 
-    /** The machine lets nothing pass as a row of any lane: NULL is found at its first cell only. */
+    /** A sheet of nothing passes every cast: NULL is found only where a cell is asked of it. */
     private static int castFault(Sheet from, int lane) {
         return from != null && from.lane != lane ? Sheet.CAST : 0;
     }
@@ -516,7 +516,7 @@ public final class NoSquare {
      * In how many ways the coins leave none of the squares whole, by inclusion and exclusion of the
      * squares from q on; the rims in joined are all there.
      */
-    private long waysWithout(int squares, int q, int joined, int lying) {
+    private static long waysWithout(Grid grid, int squares, int q, int joined, int lying) {
         int next = q;
         while (next < grid.squares && (squares >> next & 1) == 0) {
             next++;
@@ -524,8 +524,8 @@ public final class NoSquare {
         if (next >= grid.squares) {
             return 1L << lying - Integer.bitCount(joined);
         }
-        return waysWithout(squares, next + 1, joined, lying)
-                - waysWithout(squares, next + 1, joined | grid.rims[next], lying);
+        return waysWithout(grid, squares, next + 1, joined, lying)
+                - waysWithout(grid, squares, next + 1, joined | grid.rims[next], lying);
     }
 
     /** Of above by 2 to the power: the numerator (what 0), the denominator (1). */
@@ -996,7 +996,6 @@ public final class NoSquare {
         private final int[] upToCost = new int[DEAREST + 1];
         private int pick;
 
-        /** The costs are those of all places that there may be. */
         void searchAll(Grid grid, int squaresToBreak, Table prices) {
             squares = grid.squares;
             Arrays.fill(upToCost, 0);
@@ -1011,26 +1010,27 @@ public final class NoSquare {
             best = DEAREST * MOST_MATCHES;
             least = 0;
             ways = 0;
-            breakOn(0, squaresToBreak, grid.all(), 0, 0);
+            breakOn(this, 0, squaresToBreak, grid.all(), 0, 0);
         }
 
         /** Each set comes up once: a match tried for a square is no more free for the next tries. */
-        private void breakOn(int depth, int unbroken, int free, int taken, int spent) {
+        private static void breakOn(Breaker by, int depth, int unbroken, int free, int taken, int spent) {
             if (unbroken == 0) {
-                noteSet(taken, spent);
+                by.noteSet(taken, spent);
                 return;
             }
-            if (depth >= MOST_SQUARES || spent + costAtLeast(unbroken, free) > best) {
+            if (depth >= MOST_SQUARES || spent + by.costAtLeast(unbroken, free) > by.best) {
                 return;
             }
-            int open = pick;
+            int open = by.pick;
             int stillFree = free;
             for (int i = 0; i < LONGEST_RIM && open != 0; i++) {
                 int bit = open & -open;
                 int m = Integer.bitCount(bit - 1);
                 open ^= bit;
                 stillFree ^= bit;
-                breakOn(depth + 1, unbroken & ~touched[m], stillFree, taken | bit, spent + costs[m]);
+                int still = unbroken & ~by.touched[m];
+                breakOn(by, depth + 1, still, stillFree, taken | bit, spent + by.costs[m]);
             }
         }
 
@@ -1124,17 +1124,17 @@ public final class NoSquare {
             common = -1;
             numbersLeft = 0;
             counted = squaresCounted;
-            pickBelow(places, n, 0, 0);
+            pickBelow(this, places, n, 0, 0);
         }
 
         /** The highest match is chosen first: so the sets come in the order of their numbers. */
-        private void pickBelow(int places, int n, int set, int broken) {
+        private static void pickBelow(Picker by, int places, int n, int set, int broken) {
             if (n <= 0) {
-                look(set, broken);
+                by.look(set, broken);
                 return;
             }
             for (int i = n - 1; i < places; i++) {
-                pickBelow(i, n - 1, set | bits[i], broken | touched[i]);
+                pickBelow(by, i, n - 1, set | by.bits[i], broken | by.touched[i]);
             }
         }
 

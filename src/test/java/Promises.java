@@ -127,6 +127,8 @@ public final class Promises {
         refused("gone 001;", 1, 5);
         refused("123;", 1, 0);
         refused("grid 2 2 111", 1, 9);
+        refused("z 1;", 2, 0);
+        refused("gone 0az", 2, 6);
         refused("grids 2 2;", 2, 0);
         refused("gri 2 2;", 2, 0);
         refused("  gonegone 1;", 2, 2);
@@ -147,6 +149,7 @@ public final class Promises {
         refused("grid 4 4", 3, 7);
         refused("gone 31;", 3, 5);
         refused("gone 3 99;", 3, 7);
+        refused("gone 3 31;", 3, 7);
         refused("cost 31 0;", 3, 5);
         refused("cost 30 0;", 3, 8);
         refused("cost 30 10;", 3, 8);
@@ -169,6 +172,12 @@ public final class Promises {
         refused("gone 30;cost 40 1;", 3, 13);
         told("size 1;seen 1 1;gone 1;cost 1 1;", 4);
         told("gone 30;cost 30 1;grid 4 3;", 3);
+        told("gone 3 0;", 1);
+        // what was behind the end does not count
+        x.feed(0x676f6e652031323bL);
+        x.end(6);
+        due("text() of gone 1", x.text(), -16);
+        due("fault()", x.fault(), 2);
     }
 
     private static void rules() {
