@@ -406,10 +406,13 @@ public final class NoSquare {
         Sheet from = sheets[k];
         int before = table.lying;
         int taken = 0;
-        int found = castFault(from, lane);
+        int found = 0;
+        // All faults are looked for cell by cell: a read() of 0 matches finds none.
         for (int i = 0; i < n && found == 0; i++) {
             if (from == null) {
                 found = Sheet.NULL;
+            } else if (from.lane != lane) {
+                found = Sheet.CAST;
             } else if (!from.hasCell(f + i)) {
                 found = Sheet.INDEX;
             } else if (takeOne(from.cells[f + i]) < 0) {
@@ -487,11 +490,6 @@ public final class NoSquare {
 
     private static boolean canBeLaid(int places) {
         return places != 0 && Integer.bitCount(places) <= Game.MOST_PLACES;
-    }
-
-    /** A sheet of nothing passes every cast: NULL is found only where a cell is asked of it. */
-    private static int castFault(Sheet from, int lane) {
-        return from != null && from.lane != lane ? Sheet.CAST : 0;
     }
 
     private int countedSquares() {

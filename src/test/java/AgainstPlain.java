@@ -802,11 +802,9 @@ public final class AgainstPlain {
             int found = 0;
             int i = 0;
             try {
-                byte[] b = lane == 0 ? (byte[]) sheets[k] : null;
-                short[] s = lane == 1 ? (short[]) sheets[k] : null;
-                int[] w = lane == 2 ? (int[]) sheets[k] : null;
                 for (; i < n; i++) {
-                    int m = lane == 0 ? b[f + i] : lane == 1 ? s[f + i] : w[f + i];
+                    int m = lane == 0 ? ((byte[]) sheets[k])[f + i]
+                            : lane == 1 ? ((short[]) sheets[k])[f + i] : ((int[]) sheets[k])[f + i];
                     if (take(m) < 0) {
                         now.lying = before;
                         return -20 - i;

@@ -650,6 +650,8 @@ public final class Promises {
         due("torn()", x.torn(), 2);
         due("read(3, 1, 0, 1)", x.read(3, 1, 0, 1), 0);
         due("torn()", x.torn(), 3);
+        due("read(3, 0, -1, 1)", x.read(3, 0, -1, 1), 0);
+        due("torn()", x.torn(), 3);
         due("read(0, 1, -1, 1)", x.read(0, 1, -1, 1), 0);
         due("torn()", x.torn(), 1);
         due("read(3, 2, -1, 1)", x.read(3, 2, -1, 1), 0);
@@ -660,6 +662,21 @@ public final class Promises {
         due("torn()", x.torn(), 2);
         due("read(3, 2, 0, 1)", x.read(3, 2, 0, 1), 1);
         due("torn()", x.torn(), 0);
+        readsOfNone(x);
+    }
+
+    /** Of 0 matches nothing is refused, whatever the sheet is; an older fault is told no more. */
+    private static void readsOfNone(NoSquare x) {
+        int[][] reads = {{3, 0, 0}, {3, 1, 0}, {3, 1, -1}, {3, 2, 3}, {3, 2, -1}, {3, 2, TOP}, {0, 0, 0}, {0, 2, 5}};
+        int lying = x.rule(4);
+        for (int[] at : reads) {
+            due("read(3, 1, 0, 1)", x.read(3, 1, 0, 1), 0);
+            due("torn()", x.torn(), 3);
+            String call = "read(" + at[0] + ", " + at[1] + ", " + at[2] + ", 0)";
+            due(call, x.read(at[0], at[1], at[2], 0), 0);
+            due("torn() behind " + call, x.torn(), 0);
+        }
+        due("rule(4)", x.rule(4), lying);
     }
 
     private static void counting() {
