@@ -255,6 +255,11 @@ public final class EdgesOfCalls {
             Due.due("cheapest(0)" + of, priced.cheapest(0), row[4]);
             Due.due("cheapest(1)" + of, priced.cheapest(1), row[5]);
         }
+        // 0 and 3, or 1 and 10: both for 10
+        NoSquare alike = Due.taken("gone 2;cost 1 9;cost 3 9;cost 4 9;cost 5 9;cost 6 9;cost 7 9;cost 8 9;cost 9 9;", 9);
+        alike.price(11, 9);
+        Due.due("cheapest(0)", alike.cheapest(0), 10);
+        Due.due("cheapest(1)", alike.cheapest(1), 9);
         NoSquare dear = grid(4, 3);
         for (int m = 0; m < 31; m++) {
             dear.price(m, 9);
