@@ -513,7 +513,8 @@ public final class EdgesOfCalls {
         Due.each("laying of 13 places", wide::laying, STATE, 0, 1);
         Due.each("laying of 13 places", wide::laying, BAD, -1, 2);
         wide.lie(12);
-        Due.due("laying(0) of 12 places", wide.laying(0) >= 0 ? 1 : 0, 1);
+        Due.due("laying(0) of 12 places", wide.laying(0), 1);
+        Due.due("laying(1) of 12 places", wide.laying(1), 3);
         Due.each("laying of 31 places", bare(4, 3)::laying, STATE, 0, 1);
     }
 
@@ -549,7 +550,8 @@ public final class EdgesOfCalls {
         Due.each("boxes of 13 places", wide::boxes, STATE, 0, 1);
         Due.each("boxes of 13 places", wide::boxes, BAD, -1, 2);
         wide.lie(12);
-        Due.due("boxes(0) of 12 places", wide.boxes(0) >= 0 ? 1 : 0, 1);
+        Due.due("boxes(0) of 12 places", wide.boxes(0), 102);
+        Due.due("boxes(1) of 12 places", wide.boxes(1), 1);
         Due.each("boxes of 31 places", bare(4, 3)::boxes, STATE, 0, 1);
         NoSquare nothing = without(countingNothing(), 4, 9);
         Due.due("boxes(0) where nothing counts", nothing.boxes(0), 100);

@@ -70,6 +70,32 @@ public final class EdgesOfText {
         }
     }
 
+    private static void atFirst() {
+        Due.edge("A MATCH LIES (all at first) or not; it has a COST (1 to 9; 1).");
+        for (int[] grid : GRIDS) {
+            NoSquare x = Due.taken("grid " + grid[0] + " " + grid[1] + ";", 1);
+            for (int m = 0; m < grid[2]; m++) {
+                Due.due("lie(" + m + ")", x.lie(m), Due.STATE);
+                Due.due("cost(" + m + ")", x.cost(m), 1);
+                Due.due("price(" + m + ", 9)", x.price(m, 9), 1);
+                Due.due("price(" + m + ", 10)", x.price(m, 10), BAD);
+                Due.due("price(" + m + ", 0)", x.price(m, 0), BAD);
+                Due.due("price(" + m + ", 1)", x.price(m, 1), 9);
+            }
+            Due.due("cost(" + grid[2] + ")", x.cost(grid[2]), BAD);
+            Due.due("lie(" + grid[2] + ")", x.lie(grid[2]), BAD);
+            Due.due("count(0)", x.count(0), grid[2]);
+            Due.due("count(5)", x.count(5), grid[2]);
+        }
+        Due.edge("SIZES that COUNT (all at first).");
+        Due.due("rule(5) at first", new NoSquare().rule(5), 14);
+        for (int[] grid : GRIDS) {
+            NoSquare x = Due.taken("grid " + grid[0] + " " + grid[1] + ";", 1);
+            Due.due("rule(5)", x.rule(5), 14);
+            Due.due("left()", x.left(), grid[3] + grid[4] + grid[5]);
+        }
+    }
+
     private static void squaresAsFarAsThereIsRoom() {
         Due.edge("by SIZE (1, 2, 3: so many MATCHES on each side, as far as there is room)");
         for (int[] grid : GRIDS) {
@@ -531,6 +557,7 @@ public final class EdgesOfText {
     public static void main(String[] args) throws Exception {
         newObject();
         boundsOfTheGrid();
+        atFirst();
         squaresAsFarAsThereIsRoom();
         placesInTheirOrder();
         wholeByTheRimAlone();
