@@ -402,7 +402,8 @@ public final class EdgesOfCalls {
         // one place without, two are to be laid
         Due.due("riddle(2, 17, 0)", x.riddle(2, 17, 0), 0);
         Due.due("riddle(2, 17, 1)", x.riddle(2, 17, 1), NONE);
-        NoSquare[] stuck = {grid(1, 1), bare(1, 1), countingNothing()};
+        // none to be taken, or no place: also with the most pairs there are, 465 of 31
+        NoSquare[] stuck = {grid(1, 1), bare(1, 1), grid(4, 3), bare(4, 3), countingNothing()};
         for (NoSquare none : stuck) {
             for (int n = 1; n <= 2; n++) {
                 Due.due("riddle(" + n + ", 0, 0) of none", none.riddle(n, 0, 0), 0);

@@ -5,8 +5,8 @@ import java.util.Map;
 import java.util.TreeMap;
 
 /**
- * Runs of calls with the answers of a second model: a program in another language, written from the
- * document alone (see NOTES.md). A mistake that AgainstPlain shares with the class is not in these.
+ * Runs of calls with the answers of a second model, a program in another language that finds them in
+ * other ways than the class (see NOTES.md): they do not depend on the plain model of AgainstPlain.
  */
 public final class Recorded {
     private static final String RUNS = "src/test/data/recorded.txt";
